@@ -108,7 +108,7 @@ public final class VariantDesk {
             case 2:
                 return genome.width[s];
             case 3:
-                return genome.nameSize[s];
+                return genome.names.sizeOf(s);
             default:
                 throw new IndexOutOfBoundsException("a sequence has no such number");
         }
@@ -116,7 +116,7 @@ public final class VariantDesk {
 
     public int letter(int s, int place) throws IndexOutOfBoundsException {
         checkSequence(s);
-        int found = place > 0 ? genome.letterAt(s, place) : genome.nameOctet(s, -place);
+        int found = place > 0 ? genome.letterAt(s, place) : genome.names.octetAt(s, -place);
         if (found == NONE) {
             throw new IndexOutOfBoundsException("no such place or octet");
         }
@@ -132,10 +132,9 @@ public final class VariantDesk {
             return sheet.size;
         }
         if (what == 1) {
-            return sheet.samples;
+            return sheet.names.count;
         }
-        int sample = what - 2;
-        return sample < sheet.samples ? sheet.nameSize[sample] : NONE;
+        return sheet.names.sizeOf(what - 2);
     }
 
     public int record(int t, int i, int what) throws IndexOutOfBoundsException {
@@ -297,7 +296,7 @@ public final class VariantDesk {
     }
 
     private void checkSample(int t, int sample) {
-        if (sample < 0 || sample >= sheetAt(t).samples) {
+        if (sample < 0 || sample >= sheetAt(t).names.count) {
             throw new IndexOutOfBoundsException("no such sample");
         }
     }
@@ -364,19 +363,17 @@ public final class VariantDesk {
         }
 
         void addPart(int[] row, int from, int count) {
-            for (int k = from; k < from + count && k < row.length; k++) {
+            for (int k = Math.max(0, from); k < from + count && k < row.length; k++) {
                 add(row[k]);
             }
         }
 
+        /** No number here has more than six digits. */
         void addNumber(int number) {
-            int power = 1;
-            for (int digits = 1; digits < 9 && number / power > 9; digits++) {
-                power = power * 10;
-            }
-            for (int digits = 0; digits < 9 && power > 0; digits++) {
-                add('0' + number / power % 10);
-                power = power / 10;
+            for (int power = 100000; power > 0; power = power / 10) {
+                if (number >= power || power == 1) {
+                    add('0' + number / power % 10);
+                }
             }
         }
 
@@ -472,10 +469,96 @@ public final class VariantDesk {
         }
     }
 
-    /** The sequences of the reference: all names and all letters stand in one row each. */
+    /** Names of at most NAME_LIMIT octets, all in one row. */
+    private static final class Names {
+        private final int limit;
+        private final int[] octets;
+        private final int[] size;
+        private int count;
+
+        Names(int limit) {
+            this.limit = Math.max(0, limit);
+            octets = new int[this.limit * NAME_LIMIT];
+            size = new int[this.limit];
+        }
+
+        void clear() {
+            count = 0;
+        }
+
+        void open() {
+            if (count < limit) {
+                size[count] = 0;
+                count++;
+            }
+        }
+
+        /** One octet more for the name opened last. */
+        void add(int octet) {
+            int last = count - 1;
+            if (last >= 0 && size[last] < NAME_LIMIT) {
+                octets[last * NAME_LIMIT + size[last]] = octet;
+                size[last]++;
+            }
+        }
+
+        void addAll(Names other) {
+            for (int n = 0; n < other.count; n++) {
+                open();
+                for (int k = 0; k < other.size[n]; k++) {
+                    add(other.octets[n * NAME_LIMIT + k]);
+                }
+            }
+        }
+
+        int sizeOf(int n) {
+            return n >= 0 && n < count ? size[n] : NONE;
+        }
+
+        int octetAt(int n, int k) {
+            return k >= 0 && k < sizeOf(n) ? octets[n * NAME_LIMIT + k] : NONE;
+        }
+
+        /** The first of these that is the same as a name of others, or NONE. */
+        int indexOf(Names other, int n) {
+            for (int own = 0; own < count && n >= 0 && n < other.count; own++) {
+                if (isName(own, other, n)) {
+                    return own;
+                }
+            }
+            return NONE;
+        }
+
+        private boolean isName(int own, Names other, int n) {
+            if (size[own] != other.size[n]) {
+                return false;
+            }
+            for (int k = 0; k < size[own]; k++) {
+                if (octets[own * NAME_LIMIT + k] != other.octets[n * NAME_LIMIT + k]) {
+                    return false;
+                }
+            }
+            return true;
+        }
+
+        /** The name that stands in a text, or NONE. */
+        int indexIn(Octets words, int from, int to) {
+            for (int n = 0; n < count; n++) {
+                if (words.isPart(from, to, octets, n * NAME_LIMIT, size[n])) {
+                    return n;
+                }
+            }
+            return NONE;
+        }
+
+        void writeName(int n, Octets words) {
+            words.addPart(octets, n * NAME_LIMIT, sizeOf(n));
+        }
+    }
+
+    /** The sequences of the reference: the letters of all of them stand in one row. */
     private static final class Genome {
-        private final int[] names = new int[SEQUENCE_LIMIT * NAME_LIMIT];
-        private final int[] nameSize = new int[SEQUENCE_LIMIT];
+        private final Names names = new Names(SEQUENCE_LIMIT);
         private final int[] letters = new int[LETTER_LIMIT];
         private final int[] start = new int[SEQUENCE_LIMIT];
         private final int[] size = new int[SEQUENCE_LIMIT];
@@ -485,26 +568,19 @@ public final class VariantDesk {
         private int total;
 
         void clear() {
+            names.clear();
             count = 0;
             total = 0;
         }
 
         void open() {
             if (count < SEQUENCE_LIMIT) {
-                nameSize[count] = 0;
+                names.open();
                 start[count] = total;
                 size[count] = 0;
                 width[count] = 0;
                 textPlace[count] = NONE;
                 count++;
-            }
-        }
-
-        void addNameOctet(int octet) {
-            int s = count - 1;
-            if (s >= 0 && nameSize[s] < NAME_LIMIT) {
-                names[s * NAME_LIMIT + nameSize[s]] = octet;
-                nameSize[s]++;
             }
         }
 
@@ -536,48 +612,6 @@ public final class VariantDesk {
 
         int letterAt(int s, int place) {
             return has(s) && place >= 1 && place <= size[s] ? letters[start[s] + place - 1] : NONE;
-        }
-
-        int nameOctet(int s, int k) {
-            return has(s) && k >= 0 && k < nameSize[s] ? names[s * NAME_LIMIT + k] : NONE;
-        }
-
-        boolean lastNameStoodBefore() {
-            int last = count - 1;
-            for (int s = 0; s < last; s++) {
-                if (namesAlike(s, last)) {
-                    return true;
-                }
-            }
-            return false;
-        }
-
-        private boolean namesAlike(int s, int u) {
-            if (nameSize[s] != nameSize[u]) {
-                return false;
-            }
-            for (int k = 0; k < nameSize[s]; k++) {
-                if (names[s * NAME_LIMIT + k] != names[u * NAME_LIMIT + k]) {
-                    return false;
-                }
-            }
-            return true;
-        }
-
-        /** The sequence whose name stands in a text, or NONE. */
-        int named(Octets words, int from, int to) {
-            for (int s = 0; s < count; s++) {
-                if (words.isPart(from, to, names, s * NAME_LIMIT, nameSize[s])) {
-                    return s;
-                }
-            }
-            return NONE;
-        }
-
-        void writeName(int s, Octets words) {
-            if (has(s)) {
-                words.addPart(names, s * NAME_LIMIT, nameSize[s]);
-            }
         }
 
         /** Writes the letters from a place on up to, but not with, another. */
@@ -672,7 +706,7 @@ public final class VariantDesk {
                 if (nameSize == NAME_LIMIT) {
                     return fail(3);
                 }
-                genome.addNameOctet(octet);
+                genome.names.add(octet);
                 nameSize++;
                 return true;
             }
@@ -694,7 +728,8 @@ public final class VariantDesk {
         }
 
         private boolean endNameLine() {
-            if (genome.lastNameStoodBefore()) {
+            int last = genome.count - 1;
+            if (genome.names.indexOf(genome.names, last) != last) {
                 fault = 4;
                 faultPlace = nameStart;
                 return false;
@@ -868,7 +903,7 @@ public final class VariantDesk {
             if (!hasAlts()) {
                 return false;
             }
-            int cut = cutEnds();
+            int cut = cutEnds(genome);
             int steps = shortestRow() == 1 ? stepsToLeft(genome) : 0;
             moveLeft(steps, genome);
             int trimmed = cutBeginnings();
@@ -883,25 +918,16 @@ public final class VariantDesk {
             return shortest;
         }
 
-        private int cutEnds() {
+        private int cutEnds(Genome genome) {
             int most = shortestRow() - 1;
             int count = 0;
-            while (count < most && endAlike()) {
+            while (count < most && endAlikeAfter(0, genome)) {
                 for (int row = 0; row < rows; row++) {
                     rowSize[row]--;
                 }
                 count++;
             }
             return count;
-        }
-
-        private boolean endAlike() {
-            for (int row = 1; row < rows; row++) {
-                if (letterAt(row, rowSize[row] - 1) != letterAt(0, rowSize[0] - 1)) {
-                    return false;
-                }
-            }
-            return true;
         }
 
         /** How often the letter before all rows can come to them and their last one go. */
@@ -1037,7 +1063,7 @@ public final class VariantDesk {
         }
 
         void writeTo(Octets words, int samples, Genome genome) {
-            genome.writeName(sequence, words);
+            genome.names.writeName(sequence, words);
             words.add(TAB);
             words.addNumber(place);
             words.add(TAB);
@@ -1095,10 +1121,8 @@ public final class VariantDesk {
     /** A table: its records, and the names of its samples. */
     private static final class Sheet {
         private final Entry[] entries = new Entry[ENTRY_LIMIT];
-        private final int[] names = new int[SAMPLE_LIMIT * NAME_LIMIT];
-        private final int[] nameSize = new int[SAMPLE_LIMIT];
+        private final Names names = new Names(SAMPLE_LIMIT);
         private int size;
-        private int samples;
 
         Sheet() {
             for (int i = 0; i < ENTRY_LIMIT; i++) {
@@ -1108,73 +1132,19 @@ public final class VariantDesk {
 
         void clear() {
             size = 0;
-            samples = 0;
-        }
-
-        void openSample() {
-            if (samples < SAMPLE_LIMIT) {
-                nameSize[samples] = 0;
-                samples++;
-            }
-        }
-
-        void addNameOctet(int octet) {
-            int sample = samples - 1;
-            if (sample >= 0 && nameSize[sample] < NAME_LIMIT) {
-                names[sample * NAME_LIMIT + nameSize[sample]] = octet;
-                nameSize[sample]++;
-            }
-        }
-
-        private void addSamplesOf(Sheet other) {
-            for (int sample = 0; sample < other.samples; sample++) {
-                openSample();
-                for (int k = 0; k < other.nameSize[sample]; k++) {
-                    addNameOctet(other.names[sample * NAME_LIMIT + k]);
-                }
-            }
+            names.clear();
         }
 
         boolean canTakeSamples(Sheet other) {
-            if (samples + other.samples > SAMPLE_LIMIT) {
+            if (names.count + other.names.count > SAMPLE_LIMIT) {
                 return false;
             }
-            for (int sample = 0; sample < other.samples; sample++) {
-                if (hasNameOf(other, sample)) {
+            for (int sample = 0; sample < other.names.count; sample++) {
+                if (names.indexOf(other.names, sample) != NONE) {
                     return false;
                 }
             }
             return true;
-        }
-
-        private boolean hasNameOf(Sheet other, int otherSample) {
-            for (int sample = 0; sample < samples; sample++) {
-                if (nameIs(sample, other, otherSample)) {
-                    return true;
-                }
-            }
-            return false;
-        }
-
-        private boolean nameIs(int sample, Sheet other, int otherSample) {
-            if (nameSize[sample] != other.nameSize[otherSample]) {
-                return false;
-            }
-            for (int k = 0; k < nameSize[sample]; k++) {
-                if (names[sample * NAME_LIMIT + k] != other.names[otherSample * NAME_LIMIT + k]) {
-                    return false;
-                }
-            }
-            return true;
-        }
-
-        boolean hasName(Octets words, int from, int to) {
-            for (int sample = 0; sample < samples; sample++) {
-                if (words.isPart(from, to, names, sample * NAME_LIMIT, nameSize[sample])) {
-                    return true;
-                }
-            }
-            return false;
         }
 
         int sizeWhenSplit() {
@@ -1187,7 +1157,7 @@ public final class VariantDesk {
 
         void takeSplit(Sheet other) {
             clear();
-            addSamplesOf(other);
+            names.addAll(other.names);
             for (int i = 0; i < other.size; i++) {
                 takeSplitEntry(other.entries[i]);
             }
@@ -1199,7 +1169,7 @@ public final class VariantDesk {
                 size++;
             }
             for (int alt = 1; alt < entry.rows && size < ENTRY_LIMIT; alt++) {
-                entries[size].takeAlt(entry, alt, samples);
+                entries[size].takeAlt(entry, alt, names.count);
                 size++;
             }
         }
@@ -1207,7 +1177,7 @@ public final class VariantDesk {
         void joinAll(Joiner joiner) {
             int last = 0;
             for (int i = 1; i < size; i++) {
-                if (!joiner.joins(entries[last], entries[i], samples)) {
+                if (!joiner.joins(entries[last], entries[i], names.count)) {
                     last++;
                     swap(entries, last, entries, i);
                 }
@@ -1272,18 +1242,18 @@ public final class VariantDesk {
 
         /** After pairWith: takes the samples and the records of another table, these behind its own. */
         void takeAll(Sheet other) {
-            int ownSamples = samples;
-            addSamplesOf(other);
+            int ownSamples = names.count;
+            names.addAll(other.names);
             for (int i = 0; i < size; i++) {
-                setNoCalls(entries[i], ownSamples, samples);
+                setNoCalls(entries[i], ownSamples, names.count);
             }
             for (int j = 0; j < other.size; j++) {
                 Entry entry = other.entries[j];
                 int i = entry.partner;
                 if (i >= 0 && i < size) {
-                    moveCalls(entry, entries[i], ownSamples, other.samples);
+                    moveCalls(entry, entries[i], ownSamples, other.names.count);
                 } else if (size < ENTRY_LIMIT) {
-                    moveCalls(entry, entry, ownSamples, other.samples);
+                    moveCalls(entry, entry, ownSamples, other.names.count);
                     setNoCalls(entry, 0, ownSamples);
                     swap(entries, size, other.entries, j);
                     size++;
@@ -1314,17 +1284,17 @@ public final class VariantDesk {
             words.addText(FORMAT_LINE);
             words.add(LINE_END);
             words.addText(HEAD);
-            if (samples > 0) {
+            if (names.count > 0) {
                 words.add(TAB);
                 words.addText("FORMAT");
             }
-            for (int sample = 0; sample < samples; sample++) {
+            for (int sample = 0; sample < names.count; sample++) {
                 words.add(TAB);
-                words.addPart(names, sample * NAME_LIMIT, nameSize[sample]);
+                names.writeName(sample, words);
             }
             words.add(LINE_END);
             for (int i = 0; i < size; i++) {
-                entries[i].writeTo(words, samples, genome);
+                entries[i].writeTo(words, names.count, genome);
             }
         }
     }
@@ -1358,7 +1328,17 @@ public final class VariantDesk {
             }
             int due = columns;
             for (int i = 0; i <= ENTRY_LIMIT && next < tape.size; i++) {
-                if (!takeEntryLine(i, due) || !takeEntry(sheet.entries[i]) || !takeAllCalls(sheet.entries[i])) {
+                if (!takeLine()) {
+                    return false;
+                }
+                if (i == ENTRY_LIMIT) {
+                    return fail(6, begin);
+                }
+                cutColumns();
+                if (columns != due) {
+                    return fail(3, begin);
+                }
+                if (!takeEntry(sheet.entries[i]) || !takeAllCalls(sheet.entries[i])) {
                     return false;
                 }
                 sheet.size = i + 1;
@@ -1434,26 +1414,14 @@ public final class VariantDesk {
         }
 
         private boolean takeSampleName(int from, int to) {
-            if (!tape.isWord(from, to) || sheet.hasName(tape, from, to)) {
+            if (!tape.isWord(from, to) || sheet.names.indexIn(tape, from, to) != NONE) {
                 return false;
             }
-            sheet.openSample();
+            sheet.names.open();
             for (int k = from; k < to; k++) {
-                sheet.addNameOctet(tape.at(k));
+                sheet.names.add(tape.at(k));
             }
             return true;
-        }
-
-        /** Refuses the line of an entry that there is no room for. */
-        private boolean takeEntryLine(int i, int due) {
-            if (!takeLine()) {
-                return false;
-            }
-            if (i >= ENTRY_LIMIT) {
-                return fail(6, begin);
-            }
-            cutColumns();
-            return columns == due || fail(3, begin);
         }
 
         private boolean takeEntry(Entry entry) {
@@ -1466,7 +1434,7 @@ public final class VariantDesk {
                     && (takeQuality(entry) || failColumn(5))
                     && (takePassed(entry) || failColumn(6))
                     && (columnIs(7, ".") || failColumn(7))
-                    && (sheet.samples == 0 || columnIs(8, "GT") || failColumn(8));
+                    && (sheet.names.count == 0 || columnIs(8, "GT") || failColumn(8));
         }
 
         private boolean failColumn(int c) {
@@ -1478,7 +1446,7 @@ public final class VariantDesk {
         }
 
         private boolean takeSequence(Entry entry) {
-            entry.sequence = genome.named(tape, starts[0], starts[1] - 1);
+            entry.sequence = genome.names.indexIn(tape, starts[0], starts[1] - 1);
             return entry.sequence != NONE;
         }
 
@@ -1569,7 +1537,7 @@ public final class VariantDesk {
         }
 
         private boolean takeAllCalls(Entry entry) {
-            for (int sample = 0; sample < sheet.samples; sample++) {
+            for (int sample = 0; sample < sheet.names.count; sample++) {
                 int c = HEAD_COLUMNS + 1 + sample;
                 if (!takeCalls(entry, sample, starts[c], starts[c + 1] - 1)) {
                     return failColumn(c);
