@@ -6,6 +6,7 @@ public final class ApplyTest {
         ordinary();
         places();
         clashes();
+        recordsThatAreNoMore();
         whatStays();
         wrongArguments();
         Check.end("ApplyTest");
@@ -63,6 +64,16 @@ public final class ApplyTest {
         Check.due(what, desk.apply(0, 0, 0, 0) == -1 ? 1 : 0, want ? 1 : 0);
         desk = Check.desk(REFERENCE, "p", other, record);
         Check.due(what + ", the other way round", desk.apply(0, 0, 0, 0) == -1 ? 1 : 0, want ? 1 : 0);
+    }
+
+    private static void recordsThatAreNoMore() {
+        VariantDesk desk = new VariantDesk();
+        Check.reference(desk, REFERENCE);
+        for (int k = 0; k < 3; k++) {
+            Check.read(desk, 0, Check.table("p", "a 3 . G T . . . GT 1", "a 5 . A T . . . GT 1"));
+        }
+        Check.read(desk, 0, Check.table("p", "a 3 . G C . . . GT 1"));
+        puts(desk, 0, 0, 0, "ACCTACGTAC");
     }
 
     private static void whatStays() {

@@ -6,6 +6,7 @@ public final class NormaliseTest {
         normal();
         untouched();
         longRows();
+        fullTable();
         wrongArguments();
         same();
         Check.end("NormaliseTest");
@@ -28,6 +29,7 @@ public final class NormaliseTest {
         becomes("a 5 . ACAC ACACAC,AC . . .", "a 3 . GCA GCACA,G . . .");
         // Letters before are taken one by one, and the last one that all have goes again.
         becomes("a 12 . G GG . . .", "a 11 . A AG . . .");
+        becomes("a 3 . GCAC GTAC,GAAC,GNAC . . .", "a 4 . C T,A,N . . .");
         becomes("a 18 . T TT,TTT . . .", "a 14 . G GT,GTT . . .");
     }
 
@@ -53,6 +55,23 @@ public final class NormaliseTest {
         String c = "C" + as.substring(1);
         Check.dueRecords("rows of 24 letters", desk, 0, "a 1 . C " + c + " . . .", "a 1 . " + c + " C . . .",
                 "a 1 . CAA CA,C . . .");
+    }
+
+    private static void fullTable() {
+        String[] sixty = new String[60];
+        for (int k = 0; k < 60; k++) {
+            sixty[k] = "a 15 r" + k + " TT TTT,T,TTTT . . .";
+        }
+        VariantDesk desk = Check.desk(REFERENCE, "", sixty);
+        Check.due("sixty with three alts", desk.normalise(0), 60);
+        Check.due("the last one's place", desk.record(0, 59, 1), 14);
+        Check.due("the last one's last row", desk.row(0, 59, 3, -1), 4);
+        // The spare rows of a smaller table may hold what larger ones had: they do not count.
+        for (int k = 0; k < 3; k++) {
+            Check.read(desk, 0, Check.table("", sixty));
+        }
+        Check.read(desk, 0, Check.table("", "a 4 . C T . . ."));
+        Check.due("records that are no more", desk.normalise(0), 0);
     }
 
     private static void wrongArguments() {

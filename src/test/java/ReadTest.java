@@ -8,6 +8,7 @@ public final class ReadTest {
         ordinary();
         wrongArguments();
         edges();
+        longNames();
         lineFaults();
         headFaults();
         columnFaults();
@@ -90,6 +91,19 @@ public final class ReadTest {
         fine(Check.table("", "a 1 #! A c . . ."), 1);
     }
 
+    private static void longNames() {
+        StringBuilder reference = new StringBuilder();
+        for (int s = 0; s < 8; s++) {
+            reference.append(">abcdefghijklmnopqrs").append(s).append("\nACGT\n");
+        }
+        VariantDesk desk = Check.desk(reference.toString(), "abcdefghijklmnopqrs0 abcdefghijklmnopqrs1 abcdefghijklmnopqrs2",
+                "abcdefghijklmnopqrs7 4 . T C . . . GT 1 1 1");
+        Check.due("the last sequence", desk.record(0, 0, 0), 7);
+        Check.due("the last sample's name", desk.table(0, 4), 20);
+        Check.due("a part of a name", Check.read(desk, 1, Check.table("", "abcdefghijklmnopqrs 4 . T C . . .")), -4);
+        Check.due("names alike in 20 octets", Check.read(desk, 1, Check.table("p abcdefghijklmnopqrs2 abcdefghijklmnopqrs2")), -2);
+    }
+
     private static void lineFaults() {
         fault("", 1, 0);
         fault("##fileformat=VCFv4.3", 1, 20);
@@ -132,6 +146,7 @@ public final class ReadTest {
     private static void columnFaults() {
         column("c 2 . C T . . .", 4, 0);
         column(" 2 . C T . . .", 4, 0);
+        column("ab 2 . C T . . .", 4, 0);
         column("A 2 . C T . . .", 4, 0);
         for (String place : new String[] {"0", "14", "02", "", "-1", "2x", "+2", "99999999999999999999", "4294967298"}) {
             column("a " + place + " . C T . . .", 4, 1);

@@ -53,6 +53,14 @@ public final class ReferenceTest {
             eight.append(">s").append(s).append("\nA\n");
         }
         fine(eight.toString(), 8);
+        fine(">AZaz09_.\nA\n", 1);
+        for (String octet : new String[] {"@", "[", "`", "{", "/", ":", "-", "\u00e9"}) {
+            fault(">a" + octet + "\nA\n", 2, 2);
+        }
+        VariantDesk desk = new VariantDesk();
+        Check.reference(desk, ">abcdef\nA\n>ghijkl\nA\n");
+        Check.reference(desk, ">abcdef\nA\n>zzzzzz\nA\n");
+        Check.due("a name twice behind longer ones", Check.reference(desk, ">x\nA\n>x\nA\n"), -4);
     }
 
     private static void faults() {

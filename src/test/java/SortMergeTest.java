@@ -6,6 +6,7 @@ public final class SortMergeTest {
         sorting();
         merging();
         pairs();
+        oldCallsAreGone();
         samples();
         mergeNone();
         wrongArguments();
@@ -62,6 +63,28 @@ public final class SortMergeTest {
         Check.read(desk, 1, Check.table("", "a 4 s C G 8 PASS .", "a 3 . G T . . ."));
         Check.due("merge", desk.merge(), 1);
         Check.dueRecords("the second one has no samples", desk, 0, "a 3 . G T . . . GT .", "a 4 i C G . . . GT 0|1");
+    }
+
+    private static void oldCallsAreGone() {
+        VariantDesk desk = new VariantDesk();
+        Check.reference(desk, REFERENCE);
+        for (int k = 0; k < 3; k++) {
+            Check.read(desk, 0, Check.table("pz qz", "a 4 . C G,T,A . . . GT 1|2 3|2"));
+            Check.read(desk, 1, Check.table("pz qz", "a 4 . C G,T,A . . . GT 1|2 3|2"));
+        }
+        Check.read(desk, 0, Check.table("p", "a 4 . C G,T,A . . . GT 1", "a 5 . A C . . . GT 1"));
+        Check.read(desk, 1, Check.table("p"));
+        Check.due("a name that others had longer", desk.merge(), -1);
+        Check.read(desk, 1, Check.table("q", "a 4 . C G,T,A . . . GT 3"));
+        Check.due("merge", desk.merge(), 1);
+        Check.dueRecords("merge", desk, 0, "a 4 . C G,T,A . . . GT 1 3", "a 5 . A C . . . GT 1 .");
+        for (int i = 0; i < 2; i++) {
+            Check.due("no second call", desk.call(0, i, 1, 1), -1);
+            Check.due("one call", desk.call(0, i, 1, 2), 1);
+            Check.due("not phased", desk.call(0, i, 1, 3), 0);
+        }
+        Check.due("nothing is put on by a call that there is not", desk.apply(0, 1, 1, 0), 14);
+        Check.due("out", Check.out(desk), "GGGCACACACAGGG");
     }
 
     private static void samples() {

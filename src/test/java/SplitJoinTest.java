@@ -54,6 +54,7 @@ public final class SplitJoinTest {
         joins("not side by side", "", "a 4 . C G . . . | a 5 . A G . . . | a 4 . C T . . .",
                 "a 4 . C G . . . | a 5 . A G . . . | a 4 . C T . . .");
         joins("the first one's", "", "a 4 . C G . . . | a 4 j C G 9 PASS .", "a 4 . C G . . .");
+        joins("three alts and three", "", "a 4 . C G,T,A . . . | a 4 . CA TA,AA,GA . . .", "a 4 . CA GA,TA,AA . . .");
         joins("none", "", "", "");
     }
 
