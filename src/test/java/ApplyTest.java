@@ -13,7 +13,7 @@ public final class ApplyTest {
     }
 
     private static void ordinary() {
-        VariantDesk desk = Check.desk(REFERENCE, "p q", "a 9 . A T,AGG . . . GT 2|1 0", "b 1 . TTT G . . . GT 1|0 ./1",
+        Desk desk = Check.desk(REFERENCE, "p q", "a 9 . A T,AGG . . . GT 2|1 0", "b 1 . TTT G . . . GT 1|0 ./1",
                 "a 2 . CGT C . . . GT 1|0 .", "a 5 . A . . . . GT 0|0 0/0", "a 10 . C CAAAA . . . GT 0|1 1");
         puts(desk, 0, 0, 0, "ACACGTAGGC");
         puts(desk, 0, 1, 0, "ACGTACGTTCAAAA");
@@ -25,14 +25,14 @@ public final class ApplyTest {
         puts(desk, 1, 1, 1, "G");
     }
 
-    private static void puts(VariantDesk desk, int sample, int which, int s, String letters) {
+    private static void puts(Desk desk, int sample, int which, int s, String letters) {
         String what = "apply(0, " + sample + ", " + which + ", " + s + ")";
         Check.due(what, desk.apply(0, sample, which, s), letters.length());
         Check.due(what, Check.out(desk), letters);
     }
 
     private static void places() {
-        VariantDesk desk = Check.desk(REFERENCE, "p", "a 9 . A AGG . . . GT 1", "a 2 . CGT GC . . . GT 1", "a 5 . AC TTTT . . . GT 1");
+        Desk desk = Check.desk(REFERENCE, "p", "a 9 . A AGG . . . GT 1", "a 2 . CGT GC . . . GT 1", "a 5 . AC TTTT . . . GT 1");
         Check.due("apply", desk.apply(0, 0, 0, 0), 13);
         Check.due("letters", Check.out(desk), "AGCTTTTGTAGGC");
         int[] carried = {-1, 1, 2, 3, -1, 4, 5, 8, 9, 10, 13, -1};
@@ -60,14 +60,14 @@ public final class ApplyTest {
     }
 
     private static void clash(String what, String record, String other, boolean want) {
-        VariantDesk desk = Check.desk(REFERENCE, "p", record, other);
+        Desk desk = Check.desk(REFERENCE, "p", record, other);
         Check.due(what, desk.apply(0, 0, 0, 0) == -1 ? 1 : 0, want ? 1 : 0);
         desk = Check.desk(REFERENCE, "p", other, record);
         Check.due(what + ", the other way round", desk.apply(0, 0, 0, 0) == -1 ? 1 : 0, want ? 1 : 0);
     }
 
     private static void recordsThatAreNoMore() {
-        VariantDesk desk = new VariantDesk();
+        Desk desk = new Desk();
         Check.reference(desk, REFERENCE);
         for (int k = 0; k < 3; k++) {
             Check.read(desk, 0, Check.table("p", "a 3 . G T . . . GT 1", "a 5 . A T . . . GT 1"));
@@ -77,7 +77,7 @@ public final class ApplyTest {
     }
 
     private static void whatStays() {
-        VariantDesk desk = Check.desk(REFERENCE, "p", "a 3 . GT G . . . GT 1/1", "a 3 . GT GGGG . . . GT 0/1");
+        Desk desk = Check.desk(REFERENCE, "p", "a 3 . GT G . . . GT 1/1", "a 3 . GT GGGG . . . GT 0/1");
         desk.apply(0, 0, 0, 0);
         Check.due("a clash", desk.apply(0, 0, 1, 0), -1);
         Check.due("out stays", Check.out(desk), "ACGACGTAC");
@@ -94,7 +94,7 @@ public final class ApplyTest {
     }
 
     private static void wrongArguments() {
-        VariantDesk desk = Check.desk(REFERENCE, "p", "a 3 . GT G . . . GT 1/1");
+        Desk desk = Check.desk(REFERENCE, "p", "a 3 . GT G . . . GT 1/1");
         for (int bad : new int[] {-1, 2, Integer.MAX_VALUE, Integer.MIN_VALUE}) {
             Check.dueIndex("apply", () -> desk.apply(bad, 0, 0, 0));
             Check.dueIndex("apply", () -> desk.apply(0, bad, 0, 0));

@@ -15,6 +15,10 @@ final class Check {
         long answer();
     }
 
+    interface Maker {
+        Desk make();
+    }
+
     static void due(String what, long got, long want) {
         asked++;
         if (got != want) {
@@ -55,7 +59,7 @@ final class Check {
         }
     }
 
-    static int feed(VariantDesk desk, String text) {
+    static int feed(Desk desk, String text) {
         byte[] octets = text.getBytes(StandardCharsets.ISO_8859_1);
         int size = 0;
         for (int from = 0; from < octets.length; from += 8) {
@@ -69,19 +73,19 @@ final class Check {
         return size;
     }
 
-    static int reference(VariantDesk desk, String text) {
+    static int reference(Desk desk, String text) {
         feed(desk, text);
         return desk.reference();
     }
 
-    static int read(VariantDesk desk, int t, String text) {
+    static int read(Desk desk, int t, String text) {
         feed(desk, text);
         return desk.read(t);
     }
 
     /** A desk with a reference, and a table 0 with these samples (with a tab before each) and records. */
-    static VariantDesk desk(String reference, String samples, String... records) {
-        VariantDesk desk = new VariantDesk();
+    static Desk desk(String reference, String samples, String... records) {
+        Desk desk = new Desk();
         if (reference(desk, reference) < 1 || read(desk, 0, table(samples, records)) != records.length) {
             due("the desk of a test: fault at " + desk.place(), 1, 0);
         }
@@ -101,29 +105,58 @@ final class Check {
         return text.toString();
     }
 
-    static String out(VariantDesk desk) {
+    static String out(Desk desk) {
         StringBuilder text = new StringBuilder();
-        for (int k = 0; k < 9000 && desk.out(k) != VariantDesk.NONE; k++) {
-            text.append((char) desk.out(k));
+        for (int octet = desk.out(0); octet != VariantDesk.NONE; octet = desk.out(text.length())) {
+            text.append((char) octet);
+        }
+        return text.toString();
+    }
+
+    /** What OUT is, when it may be more than one object's calls can show: each that is made shows a part of it. */
+    static String longOut(Maker maker) {
+        StringBuilder text = new StringBuilder();
+        Desk desk = maker.make();
+        for (int octet = desk.out(0); octet != VariantDesk.NONE; octet = desk.out(text.length())) {
+            text.append((char) octet);
+            desk = desk.left() > 0 ? desk : maker.make();
         }
         return text.toString();
     }
 
     /** All records of a table as write tells them, with blanks for tabs and without the lines before. */
-    static String records(VariantDesk desk, int t) {
+    static String records(Desk desk, int t) {
         int size = desk.write(t);
         String text = out(desk);
         due("the size that write answers", size, text.length());
+        return recordsOf(text);
+    }
+
+    private static String recordsOf(String text) {
         int head = text.indexOf('\n', text.indexOf("#CHROM"));
         return text.substring(head + 1).replace('\t', ' ');
     }
 
-    static void dueRecords(String what, VariantDesk desk, int t, String... records) {
-        StringBuilder want = new StringBuilder();
+    static void dueRecords(String what, Desk desk, int t, String... records) {
+        due(what, records(desk, t), lines(records));
+    }
+
+    /** The same for a table with more octets than one object's calls can show. */
+    static void dueLongRecords(String what, Maker maker, int t, String... records) {
+        String text = longOut(() -> {
+            Desk desk = maker.make();
+            desk.write(t);
+            return desk;
+        });
+        due(what, recordsOf(text), lines(records));
+    }
+
+    private static String lines(String... records) {
+        StringBuilder text = new StringBuilder();
         for (String record : records) {
-            want.append(record).append('\n');
+            text.append(record).append('\n');
         }
-        due(what, records(desk, t), want.toString());
+        return text.toString();
     }
 
     static String repeat(String text, int times) {

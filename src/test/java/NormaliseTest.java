@@ -1,3 +1,5 @@
+import java.util.Arrays;
+
 /** Promises 12 (normalise) and 20 (same). */
 public final class NormaliseTest {
     private static final String REFERENCE = ">a\nGGGCACACACAGGG\nTTTT\n>b\nAAAAA\n";
@@ -7,6 +9,7 @@ public final class NormaliseTest {
         untouched();
         longRows();
         fullTable();
+        recordsThatAreNoMore();
         wrongArguments();
         same();
         Check.end("NormaliseTest");
@@ -38,7 +41,7 @@ public final class NormaliseTest {
         becomes("a 4 . CACA . . . .", "a 4 . CACA . . . .");
         becomes("a 4 . C T . . .", "a 4 . C T . . .");
         becomes("a 4 . CA TG . . .", "a 4 . CA TG . . .");
-        VariantDesk desk = Check.desk(REFERENCE, "p q", "a 15 . TTTT T . . . GT 0|1 .", "a 4 . C T 7 PASS . GT 1 1/0",
+        Desk desk = Check.desk(REFERENCE, "p q", "a 15 . TTTT T . . . GT 0|1 .", "a 4 . C T 7 PASS . GT 1 1/0",
                 "a 2 . GG . . . . GT 0 0", "a 18 . T TT . . . GT 1 1");
         Check.due("how many became others", desk.normalise(0), 2);
         Check.dueRecords("normalise", desk, 0, "a 14 . GTTT G . . . GT 0|1 .", "a 4 . C T 7 PASS . GT 1 1/0",
@@ -49,7 +52,7 @@ public final class NormaliseTest {
 
     private static void longRows() {
         String as = Check.repeat("A", 24);
-        VariantDesk desk = Check.desk(">a\nC" + Check.repeat("A", 299) + "\n", "", "a 300 . A " + as + " . . .",
+        Desk desk = Check.desk(">a\nC" + Check.repeat("A", 299) + "\n", "", "a 300 . A " + as + " . . .",
                 "a 277 . " + as + " A . . .", "a 200 . " + as + " " + as.substring(1) + "," + as.substring(2) + " . . .");
         Check.due("normalise", desk.normalise(0), 3);
         String c = "C" + as.substring(1);
@@ -62,20 +65,28 @@ public final class NormaliseTest {
         for (int k = 0; k < 60; k++) {
             sixty[k] = "a 15 r" + k + " TT TTT,T,TTTT . . .";
         }
-        VariantDesk desk = Check.desk(REFERENCE, "", sixty);
+        Desk desk = Check.desk(REFERENCE, "", sixty);
         Check.due("sixty with three alts", desk.normalise(0), 60);
         Check.due("the last one's place", desk.record(0, 59, 1), 14);
         Check.due("the last one's last row", desk.row(0, 59, 3, -1), 4);
-        // The spare rows of a smaller table may hold what larger ones had: they do not count.
+    }
+
+    /** The spare rows of a smaller table may hold what larger ones had: they do not count. */
+    private static void recordsThatAreNoMore() {
+        String[] ten = new String[10];
+        Arrays.fill(ten, "a 15 . TT TTT . . .");
+        Desk desk = Check.desk(REFERENCE, "", ten);
         for (int k = 0; k < 3; k++) {
-            Check.read(desk, 0, Check.table("", sixty));
+            desk.write(0);
+            desk.again();
+            Check.due("read again", desk.read(0), 10);
         }
         Check.read(desk, 0, Check.table("", "a 4 . C T . . ."));
         Check.due("records that are no more", desk.normalise(0), 0);
     }
 
     private static void wrongArguments() {
-        VariantDesk desk = Check.desk(REFERENCE, "", "a 4 . C T . . .");
+        Desk desk = Check.desk(REFERENCE, "", "a 4 . C T . . .");
         for (int bad : new int[] {-1, 2, Integer.MAX_VALUE, Integer.MIN_VALUE}) {
             Check.dueIndex("normalise", () -> desk.normalise(bad));
             Check.dueIndex("same", () -> desk.same(bad, 0, 0, 0) ? 1 : 0);
@@ -108,13 +119,13 @@ public final class NormaliseTest {
     }
 
     private static void becomes(String record, String normal) {
-        VariantDesk desk = Check.desk(REFERENCE, "", record);
+        Desk desk = Check.desk(REFERENCE, "", record);
         Check.due("normalise of " + record, desk.normalise(0), record.equals(normal) ? 0 : 1);
         Check.dueRecords("normalise of " + record, desk, 0, normal);
     }
 
     private static void means(String record, String other, boolean want) {
-        VariantDesk desk = Check.desk(REFERENCE, "", record, other);
+        Desk desk = Check.desk(REFERENCE, "", record, other);
         Check.read(desk, 1, Check.table("", other));
         String what = "same of " + record + " and " + other;
         Check.due(what, desk.same(0, 0, 0, 1) ? 1 : 0, want ? 1 : 0);

@@ -19,7 +19,7 @@ public final class ReadTest {
     }
 
     private static void ordinary() {
-        VariantDesk desk = Check.desk(REFERENCE, "p qq rrr",
+        Desk desk = Check.desk(REFERENCE, "p qq rrr",
                 "a 2 id.7 c gt,N,ca 999999 PASS . GT 0|1 3/. .", "b 30 . T . 0 . . GT ./. 0 .|0");
         int[][] want = {{0, 2, 3, 999999, 1, 4}, {1, 30, 0, 0, 0, 0}};
         for (int i = 0; i < 2; i++) {
@@ -52,7 +52,7 @@ public final class ReadTest {
     }
 
     private static void wrongArguments() {
-        VariantDesk desk = Check.desk(REFERENCE, "p", "a 2 . C T . . . GT 1", "a 3 . G . . . . GT 0");
+        Desk desk = Check.desk(REFERENCE, "p", "a 2 . C T . . . GT 1", "a 3 . G . . . . GT 0");
         for (int bad : new int[] {-1, 2, 3, 60, Integer.MAX_VALUE, Integer.MIN_VALUE}) {
             Check.dueIndex("read", () -> desk.read(bad));
             Check.dueIndex("table", () -> desk.table(bad, 0));
@@ -96,7 +96,7 @@ public final class ReadTest {
         for (int s = 0; s < 8; s++) {
             reference.append(">abcdefghijklmnopqrs").append(s).append("\nACGT\n");
         }
-        VariantDesk desk = Check.desk(reference.toString(), "abcdefghijklmnopqrs0 abcdefghijklmnopqrs1 abcdefghijklmnopqrs2",
+        Desk desk = Check.desk(reference.toString(), "abcdefghijklmnopqrs0 abcdefghijklmnopqrs1 abcdefghijklmnopqrs2",
                 "abcdefghijklmnopqrs7 4 . T C . . . GT 1 1 1");
         Check.due("the last sequence", desk.record(0, 0, 0), 7);
         Check.due("the last sample's name", desk.table(0, 4), 20);
@@ -203,7 +203,7 @@ public final class ReadTest {
     }
 
     private static void whatChanges() {
-        VariantDesk desk = Check.desk(REFERENCE, "p q", "a 2 i C T 3 PASS . GT 1 0|1", "a 3 . G . . . . GT . 0");
+        Desk desk = Check.desk(REFERENCE, "p q", "a 2 i C T 3 PASS . GT 1 0|1", "a 3 . G . . . . GT . 0");
         desk.apply(0, 0, 0, 0);
         Check.due("a fault", Check.read(desk, 0, Check.table("z", "a 5 j A T . . . GT 1", "b x")), -3);
         Check.dueRecords("the table stays", desk, 0, "a 2 i C T 3 PASS . GT 1 0|1", "a 3 . G . . . . GT . 0");
@@ -214,14 +214,14 @@ public final class ReadTest {
         Check.due("no samples", desk.table(0, 1), 0);
         Check.due("no name", desk.table(0, 2), -1);
         Check.due("what was put on stays", desk.carried(2), 2);
-        VariantDesk empty = new VariantDesk();
+        Desk empty = new Desk();
         Check.due("without sequences", Check.read(empty, 0, Check.table("", "a 1 . A . . . .")), -4);
         Check.due("place", empty.place(), LINES);
         Check.due("without sequences and records", Check.read(empty, 0, Check.table("p")), 0);
     }
 
     private static void fine(String text, int count) {
-        VariantDesk desk = new VariantDesk();
+        Desk desk = new Desk();
         Check.reference(desk, REFERENCE);
         Check.due("read of " + text, Check.read(desk, 1, text), count);
         Check.due("place of " + text, desk.place(), -1);
@@ -230,7 +230,7 @@ public final class ReadTest {
     }
 
     private static void fault(String text, int number, int place) {
-        VariantDesk desk = new VariantDesk();
+        Desk desk = new Desk();
         Check.reference(desk, REFERENCE);
         Check.due("read of " + text, Check.read(desk, 0, text), -number);
         Check.due("place of " + text, desk.place(), place);

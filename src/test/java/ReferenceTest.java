@@ -10,7 +10,7 @@ public final class ReferenceTest {
     }
 
     private static void ordinary() {
-        VariantDesk desk = new VariantDesk();
+        Desk desk = new Desk();
         Check.due("reference", Check.reference(desk, ">Ab_9. any ~ text\nACGT\nacgt\nnN\n>b\nGG\n"), 2);
         Check.due("place", desk.place(), -1);
         int[][] want = {{10, 18, 4, 5}, {2, 34, 2, 1}};
@@ -57,7 +57,7 @@ public final class ReferenceTest {
         for (String octet : new String[] {"@", "[", "`", "{", "/", ":", "-", "\u00e9"}) {
             fault(">a" + octet + "\nA\n", 2, 2);
         }
-        VariantDesk desk = new VariantDesk();
+        Desk desk = new Desk();
         Check.reference(desk, ">abcdef\nA\n>ghijkl\nA\n");
         Check.reference(desk, ">abcdef\nA\n>zzzzzz\nA\n");
         Check.due("a name twice behind longer ones", Check.reference(desk, ">x\nA\n>x\nA\n"), -4);
@@ -122,7 +122,7 @@ public final class ReferenceTest {
     }
 
     private static void whatChanges() {
-        VariantDesk desk = Check.desk(">a\nACGT\n", "p", "a 2 . C T . . . GT 1");
+        Desk desk = Check.desk(">a\nACGT\n", "p", "a 2 . C T . . . GT 1");
         Check.read(desk, 1, Check.table("q", "a 3 . G T . . . GT 1"));
         desk.apply(0, 0, 0, 0);
         Check.due("a fault", Check.reference(desk, ">z\nGG\nGGG\n"), -5);
@@ -144,13 +144,13 @@ public final class ReferenceTest {
     }
 
     private static void fine(String text, int count) {
-        VariantDesk desk = new VariantDesk();
+        Desk desk = new Desk();
         Check.due("reference of " + text, Check.reference(desk, text), count);
         Check.due("place of " + text, desk.place(), -1);
     }
 
     private static void fault(String text, int number, int place) {
-        VariantDesk desk = new VariantDesk();
+        Desk desk = new Desk();
         Check.due("reference of " + text, Check.reference(desk, text), -number);
         Check.due("place of " + text, desk.place(), place);
         Check.dueIndex("sequence after " + text, () -> desk.sequence(0, 0));

@@ -14,7 +14,7 @@ public final class SortMergeTest {
     }
 
     private static void sorting() {
-        VariantDesk desk = Check.desk(REFERENCE, "p", "b 3 i A C . . . GT 1", "a 12 j G . . . . GT 0",
+        Desk desk = Check.desk(REFERENCE, "p", "b 3 i A C . . . GT 1", "a 12 j G . . . . GT 0",
                 "a 2 k G T 5 PASS . GT 0/1", "a 12 l G A . . . GT .", "b 3 m A . . . . GT 0");
         Check.due("how many stand somewhere else", desk.sort(0), 3);
         Check.dueRecords("sort", desk, 0, "a 2 k G T 5 PASS . GT 0/1", "a 12 j G . . . . GT 0", "a 12 l G A . . . GT .",
@@ -33,7 +33,7 @@ public final class SortMergeTest {
     }
 
     private static void merging() {
-        VariantDesk desk = Check.desk(REFERENCE, "p", "b 3 i A C 1 . . GT 1", "a 12 j G . . . . GT 0|1".replace("0|1", "0|0"),
+        Desk desk = Check.desk(REFERENCE, "p", "b 3 i A C 1 . . GT 1", "a 12 j G . . . . GT 0|1".replace("0|1", "0|0"),
                 "a 2 k G T 5 PASS . GT 0/1");
         Check.read(desk, 1, Check.table("q r", "b 3 x A C 9 PASS . GT 0 1|1", "a 12 y G A . . . GT 1 .",
                 "a 1 z G T . . . GT 1/. 0", "b 3 u A G . . . GT 1 1"));
@@ -53,7 +53,7 @@ public final class SortMergeTest {
     }
 
     private static void pairs() {
-        VariantDesk desk = Check.desk(REFERENCE, "", "a 4 . C G,T . . .", "a 4 i C G . . .", "a 4 j C G 3 PASS .", "a 5 . A . . . .");
+        Desk desk = Check.desk(REFERENCE, "", "a 4 . C G,T . . .", "a 4 i C G . . .", "a 4 j C G 3 PASS .", "a 5 . A . . . .");
         Check.read(desk, 1, Check.table("q", "a 4 r C T,G . . . GT 1", "a 4 s C G 8 PASS . GT 0", "a 4 t C G . . . GT 1",
                 "a 4 u C G . . . GT 0|1", "a 4 v CA GA . . . GT 1", "a 5 w A . . . . GT 0/0"));
         Check.due("merge", desk.merge(), 3);
@@ -66,7 +66,7 @@ public final class SortMergeTest {
     }
 
     private static void oldCallsAreGone() {
-        VariantDesk desk = new VariantDesk();
+        Desk desk = new Desk();
         Check.reference(desk, REFERENCE);
         for (int k = 0; k < 3; k++) {
             Check.read(desk, 0, Check.table("pz qz", "a 4 . C G,T,A . . . GT 1|2 3|2"));
@@ -88,7 +88,7 @@ public final class SortMergeTest {
     }
 
     private static void samples() {
-        VariantDesk desk = Check.desk(REFERENCE, "p qq");
+        Desk desk = Check.desk(REFERENCE, "p qq");
         Check.read(desk, 1, Check.table("rrr"));
         Check.due("merge", desk.merge(), 0);
         Check.due("samples", desk.table(0, 1), 3);
@@ -103,7 +103,7 @@ public final class SortMergeTest {
         none("four samples", "p q", "r s", 1, 1);
         none("one name twice", "p q", "q", 1, 1);
         none("61 records", "p", "q", 60, 2);
-        VariantDesk desk = Check.desk(REFERENCE, "p", backwards("p", 30));
+        Desk desk = Check.desk(REFERENCE, "p", backwards("p", 30));
         Check.read(desk, 1, Check.table("q", backwards("q", 30)));
         Check.due("60 records become 30", desk.merge(), 30);
         desk = Check.desk(REFERENCE, "p", backwards("p", 60));
@@ -117,11 +117,14 @@ public final class SortMergeTest {
         String[] own = backwards(samples, size);
         String[] more = backwards(others, otherSize);
         more[otherSize - 1] = more[otherSize - 1].replace("A C", "A G");
-        VariantDesk desk = Check.desk(REFERENCE, samples, own);
-        Check.read(desk, 1, Check.table(others, more));
-        Check.due(what, desk.merge(), -1);
-        Check.dueRecords(what + ": table 0 stays", desk, 0, own);
-        Check.dueRecords(what + ": table 1 stays", desk, 1, more);
+        Check.Maker maker = () -> {
+            Desk desk = Check.desk(REFERENCE, samples, own);
+            Check.read(desk, 1, Check.table(others, more));
+            Check.due(what, desk.merge(), -1);
+            return desk;
+        };
+        Check.dueLongRecords(what + ": table 0 stays", maker, 0, own);
+        Check.dueLongRecords(what + ": table 1 stays", maker, 1, more);
     }
 
     private static String[] backwards(String samples, int size) {
@@ -133,7 +136,7 @@ public final class SortMergeTest {
     }
 
     private static void wrongArguments() {
-        VariantDesk desk = new VariantDesk();
+        Desk desk = new Desk();
         for (int bad : new int[] {-1, 2, Integer.MAX_VALUE, Integer.MIN_VALUE}) {
             Check.dueIndex("sort", () -> desk.sort(bad));
         }

@@ -2,13 +2,12 @@
 public final class TapeTest {
     public static void main(String[] args) {
         feeding();
-        fullTape();
         outAndAgain();
         Check.end("TapeTest");
     }
 
     private static void feeding() {
-        VariantDesk desk = new VariantDesk();
+        Desk desk = new Desk();
         for (int n : new int[] {0, -1, 9, Integer.MIN_VALUE, Integer.MAX_VALUE}) {
             Check.dueArgument("feed(" + n + ")", () -> desk.feed(n, 0));
         }
@@ -26,21 +25,8 @@ public final class TapeTest {
         Check.due("the tape is used up by a fault", desk.feed(1, '>'), 1);
     }
 
-    private static void fullTape() {
-        VariantDesk desk = new VariantDesk();
-        for (int k = 1; k <= 999; k++) {
-            Check.due("feed", desk.feed(8, 0), 8 * k);
-        }
-        Check.due("feed", desk.feed(1, 0), 7993);
-        Check.dueArgument("feed beyond 8000", () -> desk.feed(8, 0));
-        Check.due("the call changed nothing", desk.feed(7, 0), 8000);
-        Check.dueArgument("feed beyond 8000", () -> desk.feed(1, 0));
-        Check.due("reference", desk.reference(), -2);
-        Check.due("feed", desk.feed(3, 0), 3);
-    }
-
     private static void outAndAgain() {
-        VariantDesk desk = Check.desk(">a\nACGT\n", "p", "a 2 . C T . . . GT 1");
+        Desk desk = Check.desk(">a\nACGT\n", "p", "a 2 . C T . . . GT 1");
         Check.due("apply", desk.apply(0, 0, 0, 0), 4);
         Check.due("out", Check.out(desk), "ATGT");
         for (int k : new int[] {-1, 4, 8000, Integer.MIN_VALUE, Integer.MAX_VALUE}) {
