@@ -38,6 +38,8 @@ public final class ChangeEdgeTest {
         mergePutsOnlyOneToEach();
         mergeOfRecordsThatAreNotAlike();
         mergeMakesOneCall();
+        mergeDoesNotKnowNamesThatAreNoMore();
+        tablesHaveRecordsOfTheirOwn();
         Check.end("ChangeEdgeTest");
     }
 
@@ -452,5 +454,32 @@ public final class ChangeEdgeTest {
         }
         Check.due("both", desk.call(0, 0, 0, 1), 1);
         Check.due("both", desk.call(0, 0, 1, 0), 1);
+    }
+
+    private static void mergeDoesNotKnowNamesThatAreNoMore() {
+        Desk desk = new Desk();
+        Check.reference(desk, REFERENCE);
+        for (int k = 0; k < 6; k++) {
+            Check.read(desk, k % 2, Check.table("p q r"));
+        }
+        Check.read(desk, 0, Check.table("p"));
+        Check.read(desk, 1, Check.table("q r"));
+        Check.due("merge", desk.merge(), 0);
+        Check.due("SAMPLES", desk.table(0, 1), 3);
+    }
+
+    /** RECORDS that came from the other TABLE stay when others are read, and so do those that are read then. */
+    private static void tablesHaveRecordsOfTheirOwn() {
+        Desk desk = two("", "b 1 x A C . . . ; b 1 y A G . . . ; b 2 z A C . . .", "", "b 3 u A C . . . ; b 1 v A C,G . . .");
+        Check.due("join", desk.join(0), 2);
+        Check.due("merge", desk.merge(), 1);
+        String[] others = {"a 1 . A C . . .", "a 2 . C G . . .", "a 3 . G . . . .", "a 4 . T . . . ."};
+        Check.read(desk, 1, Check.table("", others));
+        Check.read(desk, 1, Check.table("", others));
+        Check.dueRecords("TABLE 0", desk, 0, "b 1 x A C,G . . .", "b 2 z A C . . .", "b 3 u A C . . .");
+        Check.read(desk, 0, Check.table("", others));
+        Check.read(desk, 1, Check.table("", others));
+        Check.dueRecords("TABLE 0", desk, 0, others);
+        Check.dueRecords("TABLE 1", desk, 1, others);
     }
 }

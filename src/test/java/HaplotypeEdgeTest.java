@@ -30,6 +30,8 @@ public final class HaplotypeEdgeTest {
         sameOfOtherTables();
         sameAtTheEnds();
         notTheSame();
+        onlyTheLastLetterDiffers();
+        onlyTheFirstLetterDiffers();
         Check.end("HaplotypeEdgeTest");
     }
 
@@ -330,5 +332,22 @@ public final class HaplotypeEdgeTest {
         same("b 5 TT T", "b 5 TTT T", false);
         same("a 2 C G", "a 3 G C", false);
         same("a 3 G N", "a 3 GT NT", true);
+    }
+
+    private static void onlyTheLastLetterDiffers() {
+        same("a 3 GT GA", "a 3 GT GC", false);
+        same("b 2 T A", "b 2 TTT ATG", false);
+        same("b 2 T A", "b 2 TTT ATT", true);
+        same("b 2 TT AT", "b 1 TTTT TATG", false);
+        same("b 29 TT AT", "b 29 TT AG", false);
+        same("b 2 T TA", "b 2 TTTT TATTG", false);
+    }
+
+    private static void onlyTheFirstLetterDiffers() {
+        same("a 3 GT AT", "a 3 GT CT", false);
+        same("b 4 T A", "b 2 TTT GTA", false);
+        same("b 4 T A", "b 2 TTT TTA", true);
+        same("b 1 TT AT", "b 1 TT GT", false);
+        same("b 4 T TA", "b 1 TTTT GTTTA", false);
     }
 }

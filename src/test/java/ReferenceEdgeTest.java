@@ -32,6 +32,9 @@ public final class ReferenceEdgeTest {
         threeBeforeFive();
         placeOfTheLastFault();
         theNextReferenceReplacesAll();
+        oneReferenceBehindTheOther();
+        lettersOfAFaultDoNotCount();
+        bothTablesHaveNothingThen();
         Check.end("ReferenceEdgeTest");
     }
 
@@ -370,5 +373,48 @@ public final class ReferenceEdgeTest {
         Check.due("name", desk.letter(0, 0), 'd');
         Check.dueIndex("a name's octet of the one before", () -> desk.letter(0, -1));
         Check.dueIndex("a sequence of the one before", () -> desk.sequence(1, 0));
+    }
+
+    private static void oneReferenceBehindTheOther() {
+        Desk desk = new Desk();
+        String[] letters = {"ACGTACG", "TT", "CCC", "G", "ACGT", "N"};
+        for (int k = 0; k < letters.length; k++) {
+            String name = letters[k].toLowerCase() + k;
+            Check.due("reference", Check.reference(desk, ">x\nA\n>" + name + "\n" + letters[k] + "\n"), 2);
+            int size = letters[k].length();
+            Check.due("letters", desk.sequence(1, 0), size);
+            Check.due("width", desk.sequence(1, 2), size);
+            Check.due("octets of the name", desk.sequence(1, 3), size + 1);
+            Check.due("the first letter", desk.letter(1, 1), letters[k].charAt(0));
+            Check.due("the last letter", desk.letter(1, size), letters[k].charAt(size - 1));
+            Check.dueIndex("the one behind", () -> desk.letter(1, size + 1));
+            Check.due("the other one", desk.sequence(0, 0), 1);
+        }
+    }
+
+    private static void lettersOfAFaultDoNotCount() {
+        Desk desk = new Desk();
+        String letters = Check.repeat("A", 1600);
+        Check.due("a fault behind 1600 letters", Check.reference(desk, ">a\n" + letters + "!"), -2);
+        Check.due("1600 letters", Check.reference(desk, ">a\n" + letters + "\n"), 1);
+        Check.due("letters", desk.sequence(0, 0), 1600);
+        String eight = sequences(8, "A");
+        Check.due("a fault behind eight", Check.reference(desk, eight + ">"), -3);
+        Check.due("eight", Check.reference(desk, eight), 8);
+    }
+
+    private static void bothTablesHaveNothingThen() {
+        Desk desk = Check.desk(">a\nACGT\n", "p", "a 1 . A C . . . GT 1");
+        Check.read(desk, 1, Check.table("q r", "a 2 . C . . . . GT 0 0", "a 3 . G . . . . GT 0 0"));
+        Check.due("reference, the same one", Check.reference(desk, ">a\nACGT\n"), 1);
+        for (int t = 0; t < 2; t++) {
+            int table = t;
+            Check.due("records", desk.table(t, 0), 0);
+            Check.due("samples", desk.table(t, 1), 0);
+            Check.due("the name of a sample", desk.table(t, 2), -1);
+            Check.dueIndex("record", () -> desk.record(table, 0, 0));
+            Check.dueIndex("call", () -> desk.call(table, 0, 0, 0));
+            Check.dueIndex("apply", () -> desk.apply(table, 0, 0, 0));
+        }
     }
 }

@@ -393,6 +393,8 @@ public final class TableEdgeTest {
             "..", "./..", "0 ", "x"}) {
             calls("C", wrong.replace(' ', '\u00a0'), false);
         }
+        fault(Check.table("p q", "a 1 . A C . . . GT 0 /0"), 4, Check.table("p q").length() + 21);
+        fault(Check.table("p q", "a 1 . A C . . . GT 0/ 0"), 4, Check.table("p q").length() + 19);
         int[][] want = {{1, -1, 1, 0}, {-1, -1, 1, 0}, {0, 1, 2, 0}, {1, 0, 2, 1}, {-1, 1, 2, 0}, {1, -1, 2, 1}, {-1, -1, 2, 0}};
         String[] told = {"1", ".", "0/1", "1|0", "./1", "1|.", "./."};
         for (int n = 0; n < told.length; n++) {
