@@ -3,22 +3,32 @@ import java.util.ArrayList;
 import java.util.List;
 import java.util.Random;
 
-/** Runs of calls with made-up texts and arguments, the same ones each time, on the class and on the model. */
+/**
+ * Runs of calls with made-up texts and arguments, the same ones each time, on the class and on the model.
+ * When the calls of an object end, another one gets all that changed something, and is looked at further.
+ */
 public final class ModelTest {
-    private static final int RUNS = 600;
+    private static final int RUNS = 800;
+    private static final int STEPS = 40;
+    private static final int MOST_FED = 400;
     private static final String[] LOOKS = {"sequence", "letter", "table", "record", "row", "call", "carried", "back", "same",
         "out", "place"};
     private static final String[] CHANGES = {"normalise", "split", "join", "sort", "merge", "apply", "apply", "apply", "write",
         "again", "read"};
 
     private final Random random;
-    private final VariantDesk desk = new VariantDesk();
     private final Model model = new Model();
+    private final List<Ask> past = new ArrayList<>();
     private final StringBuilder story = new StringBuilder();
     private final List<String> names = new ArrayList<>();
     private final List<String> letters = new ArrayList<>();
     private final List<String> used = new ArrayList<>();
+    private Desk desk = new Desk();
     private boolean agree = true;
+
+    private interface Ask {
+        long of(Desk desk);
+    }
 
     private ModelTest(long seed) {
         random = new Random(seed);
@@ -36,26 +46,43 @@ public final class ModelTest {
     }
 
     private void run() {
-        feed(changed(referenceText(), 10));
-        ask("reference");
-        for (int k = 0; k < 40 && agree; k++) {
+        feedReference(10);
+        for (int k = 0; k < STEPS && agree; k++) {
             int kind = random.nextInt(12);
             if (kind < 3) {
-                feed(changed(tableText(), 4));
-                ask("read");
+                feedTable();
             } else if (kind == 3 && random.nextInt(6) == 0) {
-                feed(changed(referenceText(), 3));
-                ask("reference");
+                feedReference(3);
             } else if (kind < 6) {
                 ask(LOOKS[random.nextInt(LOOKS.length)]);
             } else {
                 ask(CHANGES[random.nextInt(CHANGES.length)]);
             }
-            if (random.nextInt(4) == 0) {
+            if (random.nextInt(8) == 0) {
                 lookAtAll();
             }
         }
         lookAtAll();
+    }
+
+    private void feedReference(int rarely) {
+        if (past.size() > MOST_FED / 2) {
+            return;
+        }
+        String text = changed(referenceText(), rarely);
+        while (!canFeed(text)) {
+            text = changed(referenceText(), rarely);
+        }
+        feed(text);
+        ask("reference");
+    }
+
+    private void feedTable() {
+        String text = changed(tableText(), 4);
+        if (canFeed(text)) {
+            feed(text);
+            ask("read");
+        }
     }
 
     private int upTo(int n) {
@@ -185,6 +212,11 @@ public final class ModelTest {
         }
     }
 
+    /** Whether a text can be fed so that calls are left for all other steps, and to look at what comes of them. */
+    private boolean canFeed(String text) {
+        return past.size() + text.length() / 8 + 2 <= MOST_FED;
+    }
+
     private void feed(String text) {
         byte[] octets = text.getBytes(StandardCharsets.ISO_8859_1);
         story.append("feed ").append(text).append('\n');
@@ -195,12 +227,21 @@ public final class ModelTest {
                 packed |= (octets[from + k] & 255L) << (8 * k);
             }
             long octetsThere = packed;
-            compare("feed " + n, () -> desk.feed(n, octetsThere), () -> model.feed(n, octetsThere));
+            change("feed " + n, d -> d.feed(n, octetsThere), () -> model.feed(n, octetsThere));
         }
     }
 
-    private void compare(String call, Check.Call got, Check.Call want) {
-        String answer = Check.outcome(got);
+    /** A call that changes something is made again on each object that comes after. */
+    private void change(String call, Ask got, Check.Call want) {
+        compare(call, got, want);
+        past.add(got);
+    }
+
+    private void compare(String call, Ask got, Check.Call want) {
+        if (desk.left() == 0) {
+            desk = deskOfThePast();
+        }
+        String answer = Check.outcome(() -> got.of(desk));
         String due = Check.outcome(want);
         if (!answer.equals(due) && agree) {
             agree = false;
@@ -211,38 +252,46 @@ public final class ModelTest {
         }
     }
 
+    private Desk deskOfThePast() {
+        Desk made = new Desk();
+        for (Ask call : past) {
+            Check.outcome(() -> call.of(made));
+        }
+        return made;
+    }
+
     private void ask(String method) {
         int t = number(1);
         switch (method) {
             case "reference":
-                compare("reference", desk::reference, model::reference);
+                change("reference", Desk::reference, model::reference);
                 break;
             case "read":
-                compare("read " + t, () -> desk.read(t), () -> model.read(t));
+                change("read " + t, d -> d.read(t), () -> model.read(t));
                 break;
             case "normalise":
-                compare("normalise " + t, () -> desk.normalise(t), () -> model.normalise(t));
+                change("normalise " + t, d -> d.normalise(t), () -> model.normalise(t));
                 break;
             case "split":
-                compare("split " + t, () -> desk.split(t), () -> model.split(t));
+                change("split " + t, d -> d.split(t), () -> model.split(t));
                 break;
             case "join":
-                compare("join " + t, () -> desk.join(t), () -> model.join(t));
+                change("join " + t, d -> d.join(t), () -> model.join(t));
                 break;
             case "sort":
-                compare("sort " + t, () -> desk.sort(t), () -> model.sort(t));
+                change("sort " + t, d -> d.sort(t), () -> model.sort(t));
                 break;
             case "merge":
-                compare("merge", desk::merge, model::merge);
+                change("merge", Desk::merge, model::merge);
                 break;
             case "write":
-                compare("write " + t, () -> desk.write(t), () -> model.write(t));
+                change("write " + t, d -> d.write(t), () -> model.write(t));
                 break;
             case "again":
-                compare("again", desk::again, model::again);
+                change("again", Desk::again, model::again);
                 break;
             case "place":
-                compare("place", desk::place, () -> model.faultAt);
+                compare("place", Desk::place, () -> model.faultAt);
                 break;
             default:
                 askWithMore(method, t);
@@ -257,64 +306,64 @@ public final class ModelTest {
         String call = method + " " + t + " " + a + " " + b + " " + c + " " + p;
         switch (method) {
             case "sequence":
-                compare(call, () -> desk.sequence(a, b), () -> model.sequence(a, b));
+                compare(call, d -> d.sequence(a, b), () -> model.sequence(a, b));
                 break;
             case "letter":
-                compare(call, () -> desk.letter(b, p), () -> model.letter(b, p));
+                compare(call, d -> d.letter(b, p), () -> model.letter(b, p));
                 break;
             case "table":
-                compare(call, () -> desk.table(t, a), () -> model.table(t, a));
+                compare(call, d -> d.table(t, a), () -> model.table(t, a));
                 break;
             case "record":
-                compare(call, () -> desk.record(t, a, b), () -> model.record(t, a, b));
+                compare(call, d -> d.record(t, a, b), () -> model.record(t, a, b));
                 break;
             case "row":
-                compare(call, () -> desk.row(t, a, b, c), () -> model.row(t, a, b, c));
+                compare(call, d -> d.row(t, a, b, c), () -> model.row(t, a, b, c));
                 break;
             case "call":
-                compare(call, () -> desk.call(t, a, b, c), () -> model.call(t, a, b, c));
+                compare(call, d -> d.call(t, a, b, c), () -> model.call(t, a, b, c));
                 break;
             case "apply":
                 askApply(t, upTo(3) == 0 ? b : 0, number(1), number(names.size() - 1));
                 break;
             case "carried":
-                compare(call, () -> desk.carried(p), () -> model.carried(p));
+                compare(call, d -> d.carried(p), () -> model.carried(p));
                 break;
             case "back":
-                compare(call, () -> desk.back(p), () -> model.back(p));
+                compare(call, d -> d.back(p), () -> model.back(p));
                 break;
             case "same":
                 int u = number(1);
-                compare(call + " " + u, () -> desk.same(t, a, u, b) ? 1 : 0, () -> model.same(t, a, u, b));
+                compare(call + " " + u, d -> d.same(t, a, u, b) ? 1 : 0, () -> model.same(t, a, u, b));
                 break;
             default:
-                compare(call, () -> desk.out(p), () -> model.out(p));
+                compare(call, d -> d.out(p), () -> model.out(p));
         }
     }
 
     private void askApply(int t, int sample, int which, int s) {
         String call = "apply " + t + " " + sample + " " + which + " " + s;
-        compare(call, () -> desk.apply(t, sample, which, s), () -> model.apply(t, sample, which, s));
+        change(call, d -> d.apply(t, sample, which, s), () -> model.apply(t, sample, which, s));
     }
 
     private void lookAtAll() {
         int size = story.length();
-        compare("place", desk::place, () -> model.faultAt);
+        compare("place", Desk::place, () -> model.faultAt);
         for (int k = -1; k <= model.out.length() && agree; k++) {
             int at = k;
-            compare("out " + k, () -> desk.out(at), () -> model.out(at));
+            compare("out " + k, d -> d.out(at), () -> model.out(at));
         }
         for (int k = 0; k < 240 && agree; k++) {
             int at = k;
-            compare("carried " + k, () -> desk.carried(at), () -> model.carried(at));
-            compare("back " + k, () -> desk.back(at), () -> model.back(at));
+            compare("carried " + k, d -> d.carried(at), () -> model.carried(at));
+            compare("back " + k, d -> d.back(at), () -> model.back(at));
         }
         for (int s = 0; s < names.size() && agree; s++) {
             for (int k = -2; k < 60; k++) {
                 int at = k;
                 int which = s;
-                compare("letter " + s + " " + k, () -> desk.letter(which, at), () -> model.letter(which, at));
-                compare("sequence " + s + " " + k, () -> desk.sequence(which, at), () -> model.sequence(which, at));
+                compare("letter " + s + " " + k, d -> d.letter(which, at), () -> model.letter(which, at));
+                compare("sequence " + s + " " + k, d -> d.sequence(which, at), () -> model.sequence(which, at));
             }
         }
         for (int t = 0; t < 2 && agree; t++) {
@@ -328,25 +377,25 @@ public final class ModelTest {
     private void lookAtTable(int t) {
         for (int k = -1; k < 6; k++) {
             int what = k;
-            compare("table " + t + " " + k, () -> desk.table(t, what), () -> model.table(t, what));
+            compare("table " + t + " " + k, d -> d.table(t, what), () -> model.table(t, what));
         }
         int size = model.table(t, 0);
         for (int n = 0; n <= size && agree; n++) {
             int i = n;
             for (int k = -1; k < 7; k++) {
                 int what = k;
-                compare("record " + t + " " + i + " " + k, () -> desk.record(t, i, what), () -> model.record(t, i, what));
-                compare("same " + t + " " + i + " " + k, () -> desk.same(t, i, t, what) ? 1 : 0, () -> model.same(t, i, t, what));
+                compare("record " + t + " " + i + " " + k, d -> d.record(t, i, what), () -> model.record(t, i, what));
+                compare("same " + t + " " + i + " " + k, d -> d.same(t, i, t, what) ? 1 : 0, () -> model.same(t, i, t, what));
                 for (int sample = 0; sample < 4; sample++) {
                     int s = sample;
-                    compare("call " + t + " " + i + " " + s + " " + k, () -> desk.call(t, i, s, what), () -> model.call(t, i, s, what));
+                    compare("call " + t + " " + i + " " + s + " " + k, d -> d.call(t, i, s, what), () -> model.call(t, i, s, what));
                 }
             }
             for (int row = 0; i < size && row <= model.record(t, i, 2); row++) {
                 for (int k = -2; k < 26; k++) {
                     int r = row;
                     int at = k;
-                    compare("row " + t + " " + i + " " + r + " " + k, () -> desk.row(t, i, r, at), () -> model.row(t, i, r, at));
+                    compare("row " + t + " " + i + " " + r + " " + k, d -> d.row(t, i, r, at), () -> model.row(t, i, r, at));
                 }
             }
         }
